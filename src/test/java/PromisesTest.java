@@ -18,6 +18,7 @@ public final class PromisesTest {
         faultOfNumbers();
         lay();
         layTakesTheLast();
+        layBringsBackWhatIsSoWithout();
         hall();
         door();
         set();
@@ -31,6 +32,7 @@ public final class PromisesTest {
         deadEnds();
         downwind();
         hours();
+        hoursGoByTheirOwnAir();
         hoursOfFloodedHalls();
         clean();
         cleanNeedsAir();
@@ -216,6 +218,33 @@ public final class PromisesTest {
         due("5 no DOORS", x.count(1), 0);
     }
 
+    private static void layBringsBackWhatIsSoWithout() {
+        CaveBreath x = new CaveBreath();
+        // Three times, as an object may well have room for more than one cave.
+        for (int k = 0; k < 3; k++) {
+            x.wipe();
+            Due.write(x, "h1,9,0;h2,9,0;h90,0,0;o0,9,0;d0,2,9,0;o2,9,0;m99;c99;w98,97;s2;v30;");
+            x.lay();
+            due("5 the WARD is told", x.count(7), 2);
+            due("5 air goes as told", x.goes(0) * 10 + x.goes(12), 11);
+            x.wipe();
+            Due.write(x, "h1,0,0;c5;");
+            x.lay();
+            due("5 5 without: still", x.goes(0), 0);
+            due("5 20 without: down", x.goes(12), 2);
+            due("5 the WARD without", x.count(7), 0);
+            Due.write(x, "c20;");
+            x.lay();
+            due("5 20 without: still", x.goes(12), 0);
+            x.wipe();
+            Due.write(x, "h49,1,0;h50,0,0;o0,9,0;d0,1,1,0;o1,9,0;s1;w11,11;");
+            x.lay();
+            due("5 12 without: up", x.goes(0), 1);
+            due("5 MIDDLE 50 without", x.air(0, 1), 9);
+            due("5 no warmer without", x.weather(0, 30), 0);
+        }
+    }
+
     private static void hall() {
         CaveBreath x = Due.laid("h99,50,98;h0,1,2;");
         due("6 Z", x.hall(0, 0), 99);
@@ -369,6 +398,9 @@ public final class PromisesTest {
         due("2 below MIDDLE: out, if DOWN", x.through(12, 0), 8);
         CaveBreath y = Due.laid(halls + "m51;");
         due("2 both in, if UP: nothing goes", y.air(0, 0) + y.air(0, 1), 0);
+        CaveBreath turned = Due.laid("h50,0,0;h49,0,0;o1,6,0;o0,8,0;d0,1,1,0;");
+        due("2 the higher hall told first, UP", turned.air(0, 0) * 10 + turned.air(0, 1), 66);
+        due("2 the higher hall told first, DOWN", turned.air(12, 0) * 10 + turned.air(12, 1), 88);
         CaveBreath z = Due.laid(halls + "m0;");
         due("2 both in, if DOWN: nothing goes", z.air(12, 0) + z.air(12, 1), 0);
     }
@@ -449,6 +481,19 @@ public final class PromisesTest {
         due("14 99 gone by", y.count(2), 99);
     }
 
+    private static void hoursGoByTheirOwnAir() {
+        CaveBreath x = Due.laid(CAVE);
+        x.hours(1);
+        x.air(12, 0);
+        due("14 HOUR 1 is UP, whatever was asked", x.hours(1), 9);
+        due("14 hall 0 by UP", x.hall(0, 3), 5);
+        x.set(0, false);
+        int inOpen = x.count(3);
+        x.hours(1);
+        due("14 DOORS as they are now", x.count(3), inOpen);
+        due("14 nothing left hall 0", x.hall(0, 3), 10);
+    }
+
     private static void hoursOfFloodedHalls() {
         CaveBreath x = Due.laid(CAVE);
         x.flood(0, true);
@@ -484,6 +529,8 @@ public final class PromisesTest {
         due("15 FLOODED ones as they are", x.clean(29), 1);
         CaveBreath own = Due.laid("h10,5,0;h60,0,0;o0,9,0;d0,1,1,0;o1,9,0;s0;w5,5;");
         due("15 the WARD's own SMOKE is none", own.clean(7), 1);
+        CaveBreath little = Due.laid("h10,1,0;h60,0,0;o0,9,0;d0,1,1,0;o1,9,0;s1;w5,5;");
+        due("15 SMOKE 1 is above 0", little.clean(7), 0);
         CaveBreath down = Due.laid("h10,0,0;h60,5,0;o0,9,0;d0,1,1,0;o1,9,0;s0;");
         due("15 the second half of the DAY, too", down.clean(7), 0);
     }
@@ -542,6 +589,11 @@ public final class PromisesTest {
         due("17 DOOR 1 is not set by it", x.door(1, 4), 0);
         due("17 the WARD FLOODED", x.first(1, 0, 0), 5);
         due("17 the WARD FLOODED, how much", x.first(1, 0, 1), 0);
+        x.set(1, true);
+        x.set(0, false);
+        due("17 the first DOOR of all", x.first(2, 0, 0), 0);
+        due("17 the first DOOR of all, how much", x.first(2, 0, 1), 22);
+        x.set(0, true);
         x.flood(0, true);
         due("17 FLOODED besides", x.first(2, 0, 1), 0);
         // The WARD, hall 1, has 3 of 10 (hall 2 has 4 and 3); 5 by a shut DOOR 1 or 2. LEAKY, DOOR 5 changes nothing.
@@ -627,6 +679,15 @@ public final class PromisesTest {
         CaveBreath out = Due.laid("h10,0,0;h60,0,0;o0,21,0;d0,1,1,0;s1;w5,5;");
         due("21 a way out", out.shaft(0), 1);
         due("21 a way out, how much", out.shaft(1), 21);
+        CaveBreath kinds = Due.laid("h10,0,0;h60,0,0;o0,8,2;d0,1,5,1;d0,1,5,3;o1,9,0;s1;w5,5;m61;");
+        kinds.set(0, false);
+        // All halls are below MIDDLE: no way out UP, so that a shaft does not help.
+        due("21 MIDDLE as told", kinds.shaft(1), 0);
+        CaveBreath leaky = Due.laid("h10,0,0;h60,0,0;o0,8,2;d0,1,5,1;d0,1,5,3;o1,9,0;s1;w5,5;");
+        leaky.set(0, false);
+        due("21 10 and what is LEAKY", leaky.shaft(1), 12);
+        leaky.set(1, false);
+        due("21 a BRICKED one lets nothing", leaky.shaft(1), 0);
         out.flood(0, true);
         due("21 FLOODED ones as they are", out.shaft(1), 0);
     }
@@ -668,6 +729,15 @@ public final class PromisesTest {
                 due("23 weather(" + z + ", " + (day + 1) + ")", x.weather(z, day + 1), good);
             }
         }
+        // DOWN hall 0, the WARD here, is DOWNWIND of hall 1; UP it is not.
+        CaveBreath down = Due.laid("h10,0,0;h60,5,0;o0,9,0;d0,1,1,0;o1,9,0;s0;w5,9;v9;");
+        int cold = 0;
+        for (int day = 0; day < 30; day++) {
+            long draw = 7919L * 5 + 6151L * day + 1;
+            cold += 9 + draw * draw % 65521 % 10 <= 12 ? 1 : 0;
+            due("23 DOWN, weather(5, " + (day + 1) + ")", down.weather(5, day + 1), cold);
+        }
+        DUE.holds("some days are cold, some warm", cold > 0 && cold < 30);
         due("23 no warmer without v", Due.laid(halls).weather(9, 30), 0);
         CaveBreath shut = Due.laid(halls + "v9;");
         shut.set(1, false);
@@ -736,6 +806,12 @@ public final class PromisesTest {
         due("4 fault() of a longer text", x.fault(), CAVE.length());
         due("5 lay() of it", x.lay(), NO);
         due("5 as laid before", x.air(0, 2), 5);
+        x.wipe();
+        Due.write(x, "h1,0,0;h2,0,0;o1,1,1;m5;");
+        due("4 fault() of another text", x.fault(), NONE);
+        due("4 as laid before", x.air(0, 2) * 10 + x.count(0), 53);
+        x.wipe();
+        Due.write(x, CAVE + "x");
         x.shaft(0);
         due("21 shaft() leaves things as they are", x.through(0, 1), 17);
         due("4 fault() leaves things as they are", x.fault() + x.count(1), CAVE.length() + 5);
