@@ -15,6 +15,7 @@ public final class PromisesTest {
         write();
         wipe();
         fault();
+        faultAtTheEnd();
         faultOfNumbers();
         lay();
         layTakesTheLast();
@@ -143,6 +144,22 @@ public final class PromisesTest {
         due("4 w with three numbers", Due.faultOf("w1,2,3;"), 0);
         due("4 d with three numbers", Due.faultOf("h1,0,0;h2,0,0;d0,1,1;"), 14);
         due("4 o with four numbers", Due.faultOf("h1,0,0;o0,1,0,0;"), 7);
+    }
+
+    /** What stood behind the end once, or where no byte can stand, is none of THE TEXT. */
+    private static void faultAtTheEnd() {
+        CaveBreath x = new CaveBreath();
+        Due.write(x, "m1;m22;");
+        x.wipe();
+        Due.write(x, "m1;m2");
+        due("4 a wiped figure and ; are gone", x.fault(), 3);
+        x.wipe();
+        Due.write(x, "m1");
+        due("4 a wiped ; is gone", x.fault(), 0);
+        String full = "m1;".repeat(133);
+        due("4 400 bytes, the last a letter", Due.faultOf(full + "m"), 399);
+        due("4 400 bytes, the last a figure", Due.faultOf(full.substring(3) + "1;m1"), 396);
+        due("4 400 bytes, the last a ;", Due.faultOf(full.substring(3) + "m12;"), NONE);
     }
 
     private static void faultOfNumbers() {
