@@ -178,7 +178,7 @@ public final class BoundsOfTheTextTest {
     }
 
     static void promise02BadAheadOfFull() {
-        DUE.says(2, "BAD; FULL. Of several the first in this order");
+        DUE.says(2, "BAD .. FULL. Of several the first in this order");
         for (int wrong : new int[] {0, 9, -1, LEAST, MOST}) {
             DUE.refusedByFull("write(" + wrong + ", ..) at 400", x -> x.write(wrong, 0), BAD);
         }

@@ -331,7 +331,7 @@ public final class BoundsOfTheWardensTest {
     }
 
     static void promise18BadAheadOfFull() {
-        DUE.says(18, "BAD; FULL. Of several the first in this order");
+        DUE.says(18, "BAD .. FULL. Of several the first in this order");
         DUE.refusedByFull("smelled(24, 0, true)", x -> x.smelled(24, 0, true), BAD);
         DUE.refusedByFull("smelled(-1, 0, true)", x -> x.smelled(-1, 0, true), BAD);
         DUE.refusedByFull("smelled(0, 8, true)", x -> x.smelled(0, 8, true), BAD);
@@ -444,7 +444,7 @@ public final class BoundsOfTheWardensTest {
     }
 
     static void promise21BadAheadOfNo() {
-        DUE.says(21, "BAD; NO. Of several the first in this order");
+        DUE.says(21, "BAD .. NO .. Of several the first in this order");
         for (int wrong : NEITHER) {
             DUE.refusedByFull("shaft(" + wrong + ")", x -> x.shaft(wrong), BAD);
         }
@@ -483,22 +483,36 @@ public final class BoundsOfTheWardensTest {
 
     static void promise21AsLaid() {
         DUE.says(21, "if it had one DOOR more into the OPEN (the last one, PLAIN, 10 wide, open)");
-        // The WARD, hall 1, has 5 UP by hall 0, 12 by DOOR 1, LEAKY and shut; none by 2, BRICKED; 10 by the shaft.
-        CaveBreath x = Due.laid("h20,0,0;h30,0,0;o0,5,0;o0,50,2;o0,50,3;d0,1,1,1;o1,1,0;s1;m25;c40;w39,39;");
+        // UP hall 0 has 5, 12 by DOOR 1 (LEAKY, shut), none by 2 (BRICKED), 10 by a shaft: the WARD has 1 in 3 of it.
+        CaveBreath x = Due.laid(
+            "h20,0,0;h30,0,0;h31,0,0;o0,5,0;o0,50,2;o0,50,3;d0,1,1,1;o1,1,0;d0,2,2,0;o2,1,0;s1;m25;c40;w39,39;");
         x.set(1, false);
         due("shaft(0)", x.shaft(0), 0);
-        due("shaft(1)", x.shaft(1), 27);
+        due("shaft(1)", x.shaft(1), 9);
         for (String other : new String[] {"", "h9,9,9;h8,8,8;o0,3,2;o1,3,0;o1,3,1;d0,1,1,3;m1;c1;w99,99;s0;v9;", "h9,9,9;x"}) {
             x.wipe();
             Due.write(x, other);
             x.fault();
             due("shaft(0), THE TEXT being " + other, x.shaft(0), 0);
-            due("shaft(1), THE TEXT being " + other, x.shaft(1), 27);
+            due("shaft(1), THE TEXT being " + other, x.shaft(1), 9);
         }
-        for (int d = 0; d < 5; d++) {
-            x.set(d, d > 2);
-        }
-        due("shaft(1), open whatever is shut, and LEAKY", x.shaft(1), 22);
+        x.set(0, false);
+        // 22 in 3 parts: 7 and 14, and the one left goes by the lowest DOOR.
+        due("shaft(1), 10 and what is LEAKY", x.shaft(1), 8);
+    }
+
+    static void promise21TheLastOne() {
+        DUE.says(21, "(the last one, PLAIN, 10 wide, open)");
+        // Hall 2 has 5 and hands on 4 and 0 by DOORS 3 (43 wide, into the OPEN) and 4 (2 wide, to the WARD); the one
+        // left goes by DOOR 3. With a shaft of hall 2: 3, 0, and 0 by the shaft; two are left, for DOORS 3 and 4.
+        CaveBreath x = Due.laid("h78,0,0;h0,0,0;h76,0,0;o0,5,0;o1,5,0;d1,2,1,0;o2,43,0;d0,2,2,0;w5,5;");
+        due("air(0, 0) without", x.air(0, 0), 0);
+        due("shaft(0)", x.shaft(0), 2);
+        due("shaft(1)", x.shaft(1), 1);
+        // Hall 0 has 29 for DOORS 0 (22 wide) and 1, to the WARD: 19, 0, 8 and two left, so that it has 1 as by others.
+        CaveBreath y = Due.laid("h55,0,0;h16,0,0;h70,0,0;o0,22,0;d2,0,1,0;o2,1,0;o1,29,0;d1,0,1,0;s2;w5,5;");
+        due("shaft(0), all alike", y.shaft(0), 0);
+        due("shaft(1), all alike", y.shaft(1), 1);
     }
 
     static void promise21LeastOfTheDay() {

@@ -15,9 +15,7 @@ public final class FaceTest {
         "flood(int,boolean)", "goes(int)", "air(int,int)", "through(int,int)", "downwind(int,int)", "hours(int)",
         "clean(int)", "settings(int)", "first(int,int,int)", "smelled(int,int,boolean)", "forget()", "burns()",
         "shaft(int)", "lamps(int)", "weather(int,int)", "keep()", "back()", "count(int)");
-    // As many DOORS and HALLS as there can be, in all kinds.
-    private static final String GREAT = "h1,9,1;h11,0,0;h22,3,0;h33,0,0;h44,0,0;h55,0,0;h66,0,0;h77,50,0;o0,50,0;o1,9,2;"
-        + "d0,2,7,0;d1,3,8,1;d2,4,9,2;d3,5,7,0;d4,6,5,0;d5,7,4,0;d6,7,3,3;o7,50,0;s6;v30;";
+    private static final String GREAT = Look.GREAT;
 
     public static void main(String[] args) throws Exception {
         members();

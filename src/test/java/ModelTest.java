@@ -28,7 +28,8 @@ public final class ModelTest {
     }
 
     private void go() {
-        while (calls < 512 && !DUE.anyWrong()) {
+        // What is answered past 512 calls is free, and another cave takes some fifty to tell.
+        while (calls < 512 - 60 && !DUE.anyWrong()) {
             if (random.nextInt(60) == 0 || calls == 0) {
                 layAnother();
             } else {
@@ -149,8 +150,8 @@ public final class ModelTest {
     }
 
     private void callCaves(int which) {
-        int i = upTo(x.count(0));
-        int d = upTo(x.count(1));
+        int i = upTo(y.count(0));
+        int d = upTo(y.count(1));
         int t = hour();
         int what = upTo(5);
         boolean is = random.nextBoolean();
@@ -174,19 +175,19 @@ public final class ModelTest {
     }
 
     private void callWardens(int which) {
-        int i = upTo(x.count(0));
+        int i = upTo(y.count(0));
         int t = hour();
         int what = upTo(2);
         boolean did = random.nextInt(3) == 0;
         switch (which) {
             case 0:
             case 1:
-                int bits = upTo(1 << x.count(1));
+                int bits = upTo(1 << y.count(1));
                 due("clean(" + bits + ")", x.clean(bits), y.clean(bits));
                 break;
             case 2:
                 // The naive model takes its time here, so this is called seldom where there are many DOORS.
-                if (random.nextInt(1 << x.count(1)) < 16) {
+                if (random.nextInt(1 << y.count(1)) < 16) {
                     due("settings(" + what + ")", x.settings(what), y.settings(what));
                 }
                 break;

@@ -4,10 +4,7 @@ public final class PromisesTest {
     private static final int LEAST = Integer.MIN_VALUE, MOST = Integer.MAX_VALUE;
     private static final Due DUE = new Due("PromisesTest");
 
-    // Air UP: 22 come into hall 0, 17 go to hall 1 and 5 to hall 2 (16 and 5, one left), all leave by hall 1.
-    // Air DOWN: 7 come into hall 1, go to hall 0 (the flap lets nothing) and out; hall 2 gets none.
-    private static final String CAVE =
-        "h10,5,0;h60,0,0;h30,0,0;o0,22,0;d0,1,3,0;d0,2,1,2;d2,1,4,1;o1,7,0;s1;v4;";
+    private static final String CAVE = Look.CAVE;
 
     public static void main(String[] args) {
         constants();
