@@ -30,7 +30,7 @@ public final class ModelTest {
     private void go() {
         // What is answered past 512 calls is free, and another cave takes some fifty to tell.
         while (calls < 512 - 60 && !DUE.anyWrong()) {
-            if (random.nextInt(60) == 0 || calls == 0) {
+            if (random.nextInt(80) == 0 || calls == 0) {
                 layAnother();
             } else {
                 call();
@@ -60,7 +60,8 @@ public final class ModelTest {
 
     private void layAnother() {
         due("wipe()", x.wipe(), y.wipe());
-        text = random.nextInt(6) == 0 ? spoiled(cave()) : cave();
+        String told = random.nextInt(5) < 2 ? cave() : airyCave();
+        text = random.nextInt(6) == 0 ? spoiled(told) : told;
         for (int at = 0; at < text.length(); at += 8) {
             int n = Math.min(8, text.length() - at);
             long v = random.nextLong();
@@ -100,7 +101,7 @@ public final class ModelTest {
             int needs = quiet ? 0 : random.nextInt(4) == 0 ? random.nextInt(6) : 0;
             s.append("h").append(z[i]).append(",").append(smoke).append(",").append(needs).append(";");
         }
-        int doors = random.nextInt(5) == 0 ? 10 : random.nextInt(9);
+        int doors = random.nextInt(5) == 0 ? 10 : random.nextInt(11);
         int widest = random.nextBoolean() ? 50 : 4;
         for (int d = 0; d < doors; d++) {
             int kind = random.nextInt(3) == 0 ? random.nextInt(4) : 0;
@@ -117,6 +118,27 @@ public final class ModelTest {
         return s.toString();
     }
 
+    /** One in which air goes from the lowest hall to the highest one, and back, more often than not. */
+    private String airyCave() {
+        StringBuilder s = new StringBuilder();
+        int halls = 2 + random.nextInt(5);
+        int[] z = new int[halls];
+        for (int i = 0; i < halls; i++) {
+            z[i] = i == 0 ? random.nextInt(50) : i == 1 ? 50 + random.nextInt(50) : random.nextInt(100);
+            int smoke = random.nextInt(4) == 0 ? 1 + random.nextInt(50) : 0;
+            int needs = random.nextInt(7) == 0 ? 1 + random.nextInt(6) : 0;
+            s.append("h").append(z[i]).append(",").append(smoke).append(",").append(needs).append(";");
+        }
+        s.append("o0,").append(1 + random.nextInt(50)).append(",0;o1,").append(1 + random.nextInt(50)).append(",0;");
+        for (int d = random.nextInt(8); d >= 0; d--) {
+            int one = random.nextInt(halls);
+            int other = random.nextInt(halls);
+            s.append(z[one] == z[other] ? "o" + one : "d" + one + "," + other);
+            s.append(",").append(1 + random.nextInt(9)).append(",").append(Math.max(0, random.nextInt(6) - 3)).append(";");
+        }
+        return s.append(weatherAndWard(halls)).toString();
+    }
+
     private String weatherAndWard(int halls) {
         StringBuilder s = new StringBuilder();
         if (random.nextInt(4) == 0) {
@@ -126,7 +148,10 @@ public final class ModelTest {
             s.append("c").append(10 + random.nextInt(10)).append(";");
         }
         if (random.nextInt(3) == 0) {
-            s.append("w").append(5 + random.nextInt(20)).append(",").append(5 + random.nextInt(20)).append(";");
+            int near = random.nextBoolean() ? 3 : 20;
+            int early = 12 - near / 2 + random.nextInt(near);
+            int late = 12 - near / 2 + random.nextInt(near);
+            s.append("w").append(early).append(",").append(late).append(";");
         }
         if (random.nextInt(4) > 0) {
             s.append("s").append(random.nextInt(halls)).append(";");
@@ -193,8 +218,10 @@ public final class ModelTest {
                 break;
             case 3: due("first(" + i + ", " + t + ", " + what + ")", x.first(i, t, what), y.first(i, t, what)); break;
             case 4:
-                int h = upTo(24);
-                due("smelled(" + h + ", " + i + ", " + did + ")", x.smelled(h, i, did), y.smelled(h, i, did));
+                for (int many = 1 + random.nextInt(4); many > 0; many--) {
+                    int h = upTo(24);
+                    due("smelled(" + h + ", " + i + ", " + did + ")", x.smelled(h, i, did), y.smelled(h, i, did));
+                }
                 break;
             case 5:
                 if (random.nextInt(3) == 0) {
@@ -211,7 +238,10 @@ public final class ModelTest {
                 due("weather(" + z + ", " + n + ")", x.weather(z, n), y.weather(z, n));
                 break;
             case 11: due("keep()", x.keep(), y.keep()); break;
-            case 12: due("back()", x.back(), y.back()); break;
+            case 12:
+                due("back()", x.back(), y.back());
+                due("count(3)", x.count(3), y.count(3));
+                break;
             case 13:
                 int w = upTo(8);
                 due("count(" + w + ")", x.count(w), y.count(w));

@@ -32,6 +32,7 @@ public final class PromisesTest {
         hours();
         hoursGoByTheirOwnAir();
         hoursOfFloodedHalls();
+        hoursOfTheOtherHalfDay();
         clean();
         cleanNeedsAir();
         settings();
@@ -41,6 +42,7 @@ public final class PromisesTest {
         forget();
         burns();
         shaft();
+        shaftByFloodedHalls();
         shaftWithTenDoors();
         lamps();
         weather();
@@ -513,10 +515,16 @@ public final class PromisesTest {
         x.flood(0, true);
         due("14 SMOKE stays in a FLOODED hall", x.hours(30), 150);
         due("14 all in hall 0", x.hall(0, 3), 150);
-        // From HOUR 30 on it is DOWN: 155 times 7 by 27 leave, 40.
+        // HOUR 30 is 6 of its DAY, so UP: 155 times 17 by 42 is 62 to hall 1; 155 times 5 by 42 is 18 to hall 2.
         x.flood(0, false);
-        x.hours(6);
-        x.lay();
+        due("14 DRY again, it goes", x.hours(1), 155);
+        due("14 hall 0, DRY again", x.hall(0, 3), 75);
+        due("14 hall 1 has its part", x.hall(1, 3), 62);
+        due("14 hall 2 has its part", x.hall(2, 3), 18);
+    }
+
+    private static void hoursOfTheOtherHalfDay() {
+        CaveBreath x = Due.laid(CAVE);
         x.hours(12);
         int open = x.count(3);
         int smoke = x.hall(0, 3);
@@ -556,9 +564,12 @@ public final class PromisesTest {
         due("15 DOWN never comes", Due.laid(halls + "8,0;w5,5;").clean(7), 1);
         due("15 whenever air goes: it does not", Due.laid(halls + "8,0;w5,12;").clean(7), 1);
         due("15 air never goes", Due.laid(halls + "8,0;w12,12;").clean(0), 1);
-        CaveBreath x = Due.laid(halls + "9,0;");
-        x.flood(1, true);
-        due("15 a FLOODED hall needs AIR, too", x.clean(7), 0);
+        // Hall 2 lies beside: FLOODED, it takes no AIR from the others, but has none of what it needs itself.
+        CaveBreath x = Due.laid("h10,0,9;h60,0,9;h30,0,1;o0,9,0;d0,1,5,0;d0,2,4,0;d2,1,4,0;o1,9,0;");
+        due("15 all have their AIR", x.clean(31), 1);
+        x.flood(2, true);
+        due("15 the others have theirs", x.air(0, 0) * 10 + x.air(12, 1), 99);
+        due("15 a FLOODED hall needs AIR, too", x.clean(31), 0);
     }
 
     private static void settings() {
@@ -704,6 +715,19 @@ public final class PromisesTest {
         due("21 a BRICKED one lets nothing", leaky.shaft(1), 0);
         out.flood(0, true);
         due("21 FLOODED ones as they are", out.shaft(1), 0);
+    }
+
+    /** The WARD has 20 from below; of what comes from above, 3 by itself and 7 by hall 2, FLOODED keeps it 3. */
+    private static void shaftByFloodedHalls() {
+        String cave = "h10,0,0;h60,0,0;h90,0,0;o0,20,0;d0,1,5,0;o1,3,0;d1,2,4,0;o2,7,0;s1;";
+        for (String days : new String[] {"w5,20;", "w20,5;"}) {
+            CaveBreath x = Due.laid(cave + days);
+            due("21 " + days + " DRY, the lowest that has most", x.shaft(0), 1);
+            due("21 " + days + " DRY, 20 both ways", x.shaft(1), 20);
+            x.flood(2, true);
+            due("21 " + days + " FLOODED, the WARD itself", x.shaft(0), 1);
+            due("21 " + days + " FLOODED, 3 and 10", x.shaft(1), 13);
+        }
     }
 
     private static void shaftWithTenDoors() {
